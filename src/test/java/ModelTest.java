@@ -270,7 +270,7 @@ public final class ModelTest {
 
     private static boolean runIsRight(int run) {
         Random random = new Random(run);
-        int[] weights = {run % 7 == 0 ? 60 : 2 + random.nextInt(10), 30, 10, 10, 1 + random.nextInt(5),
+        int[] weights = {run % 7 == 0 ? 200 : 2 + random.nextInt(10), 30, 10, 10, 1 + random.nextInt(5),
             1 + random.nextInt(5), 3, random.nextInt(4), 4, 10, 10};
         WillKeeper x = new WillKeeper();
         Model m = new Model();

@@ -13,7 +13,7 @@ public final class PromisesTest {
     private static int wrong = 0;
 
     private interface Call {
-        int answer();
+        int answer(WillKeeper x);
     }
 
     private static void due(String call, int want, int got) {
@@ -23,11 +23,16 @@ public final class PromisesTest {
         }
     }
 
-    private static void refused(String call, Class<? extends RuntimeException> want, WillKeeper x, Call run) {
-        String earlier = picture(x);
+    /** Makes the same keeper each time: a keeper is good for 512 calls, and a picture takes many. */
+    private interface Maker {
+        WillKeeper keeper();
+    }
+
+    private static void refused(String call, Class<? extends RuntimeException> want, Maker maker, Call run) {
+        WillKeeper x = maker.keeper();
         String got = "nothing";
         try {
-            run.answer();
+            run.answer(x);
         } catch (RuntimeException e) {
             got = e.getClass().getName();
         }
@@ -35,23 +40,27 @@ public final class PromisesTest {
             wrong++;
             System.out.println(call + " throws " + got + ", due is " + want.getName());
         }
-        if (!earlier.equals(picture(x))) {
+        if (!picture(maker.keeper()).equals(picture(x))) {
             wrong++;
             System.out.println(call + " was refused and yet changed something");
         }
     }
 
-    /** All that calls which change nothing can tell, but for roots, whose reach it shows. */
+    /** All that a keeper of few objects can tell; the keeper is spent by it. */
     private static String picture(WillKeeper x) {
         StringBuilder text = new StringBuilder();
         for (int what = 0; what <= 8; what++) {
             text.append(x.count(what)).append(' ');
         }
-        for (int place = 0; place < x.count(3); place++) {
+        int shown = Math.min(8, x.count(8));
+        for (int place = 0; place < shown; place++) {
             text.append('q').append(x.queued(place)).append(' ');
         }
-        for (int k = 0; k < x.count(8); k++) {
+        for (int k = 0; k < shown; k++) {
             text.append(pictureOf(x, k));
+        }
+        for (int root = 0; root < 16; root++) {
+            text.append('r').append(x.root(root, NONE)).append(' ');
         }
         return text.toString();
     }
@@ -62,9 +71,11 @@ public final class PromisesTest {
             for (int what = 0; what <= 3; what++) {
                 text.append(x.about(k, what)).append(' ');
             }
-            for (int field = 0; field < x.about(k, 1); field++) {
+            int fields = x.about(k, 1);
+            for (int field = 0; field < fields; field++) {
                 text.append(x.get(k, field)).append(' ');
             }
+            text.append('i').append(x.identity(k)).append(' ');
         } catch (NoSuchElementException e) {
             text.append("gone ");
         }
@@ -80,10 +91,10 @@ public final class PromisesTest {
         due("1: queued(0)", NONE, x.queued(0));
         due("1: clear()", 0, x.clear());
         due("1: sweep()", 0, x.sweep());
-        refused("1: about(0, 0)", MISSING, x, () -> x.about(0, 0));
         for (int root = 0; root < 16; root++) {
             due("1: root(" + root + ", NONE)", NONE, x.root(root, NONE));
         }
+        refused("1: about(0, 0)", MISSING, WillKeeper::new, y -> y.about(0, 0));
         WillKeeper other = new WillKeeper();
         x.make(PLAIN, 1);
         x.root(0, 0);
@@ -91,7 +102,7 @@ public final class PromisesTest {
         due("1: root of another keeper", NONE, other.root(0, NONE));
     }
 
-    private static void promise2() {
+    private static WillKeeper oneOfEach() {
         WillKeeper x = new WillKeeper();
         due("2: make(PLAIN, 0)", 0, x.make(PLAIN, 0));
         due("2: make(PLAIN, 12)", 1, x.make(PLAIN, 12));
@@ -99,31 +110,46 @@ public final class PromisesTest {
         due("2: make(WEAK, 12)", 3, x.make(WEAK, 12));
         due("2: make(FINAL, 0)", 4, x.make(FINAL, 0));
         due("2: make(FINAL, 12)", 5, x.make(FINAL, 12));
-        for (int field = 0; field < 12; field++) {
-            due("2: a new field", NONE, x.get(1, field));
-            due("2: a new field", NONE, x.get(3, field));
-        }
-        int[][] bad = {{-1, 1}, {3, 1}, {Integer.MAX_VALUE, 1}, {Integer.MIN_VALUE, 1}, {PLAIN, -1}, {PLAIN, 13},
-            {FINAL, 13}, {FINAL, -1}, {WEAK, 13}, {WEAK, 0}, {WEAK, -1}, {PLAIN, Integer.MIN_VALUE},
-            {PLAIN, Integer.MAX_VALUE}};
-        for (int[] b : bad) {
-            refused("2: make(" + b[0] + ", " + b[1] + ")", ARGUMENT, x, () -> x.make(b[0], b[1]));
-        }
+        return x;
+    }
+
+    private static WillKeeper full() {
+        WillKeeper x = oneOfEach();
         due("2: sweep()", 4, x.sweep());
         due("2: a number is not given again", 6, x.make(PLAIN, 0));
         for (int k = 7; k < 300; k++) {
             due("2: make up to 300", k, x.make(k % 3, 12));
         }
-        refused("2: the 301st", STATE, x, () -> x.make(PLAIN, 0));
-        for (int[] b : bad) {
-            refused("2: wrong and full", ARGUMENT, x, () -> x.make(b[0], b[1]));
-        }
-        x.sweep();
-        refused("2: the 301st after a sweep", STATE, x, () -> x.make(FINAL, 3));
-        due("2: objects made", 300, x.count(8));
+        return x;
     }
 
-    private static void promise3And4() {
+    private static WillKeeper fullAndSwept() {
+        WillKeeper x = full();
+        x.sweep();
+        return x;
+    }
+
+    private static void promise2() {
+        WillKeeper x = oneOfEach();
+        for (int field = 0; field < 12; field++) {
+            due("2: a new field", NONE, x.get(1, field));
+            due("2: a new field", NONE, x.get(3, field));
+            due("2: a new field", NONE, x.get(5, field));
+        }
+        int[][] bad = {{-1, 1}, {3, 1}, {Integer.MAX_VALUE, 1}, {Integer.MIN_VALUE, 1}, {PLAIN, -1}, {PLAIN, 13},
+            {FINAL, 13}, {FINAL, -1}, {WEAK, 13}, {WEAK, 0}, {WEAK, -1}, {PLAIN, Integer.MIN_VALUE},
+            {PLAIN, Integer.MAX_VALUE}};
+        for (int[] b : bad) {
+            String call = "make(" + b[0] + ", " + b[1] + ")";
+            refused("2: " + call, ARGUMENT, PromisesTest::oneOfEach, y -> y.make(b[0], b[1]));
+            refused("2: when full, " + call, ARGUMENT, PromisesTest::full, y -> y.make(b[0], b[1]));
+        }
+        refused("2: the 301st", STATE, PromisesTest::full, y -> y.make(PLAIN, 0));
+        refused("2: the 301st after a sweep", STATE, PromisesTest::fullAndSwept, y -> y.make(FINAL, 3));
+        due("2: objects made", 300, full().count(8));
+    }
+
+    private static WillKeeper withFields() {
         WillKeeper x = new WillKeeper();
         x.make(PLAIN, 2);
         x.make(WEAK, 2);
@@ -140,23 +166,35 @@ public final class PromisesTest {
         due("4: weak field", 2, x.get(1, 0));
         due("3: weak field", 2, x.set(1, 0, 1));
         due("3: field of a FINAL", NONE, x.set(2, 0, 0));
+        return x;
+    }
+
+    private static WillKeeper withFieldsSwept() {
+        WillKeeper x = withFields();
+        due("3: sweep()", 2, x.sweep());
+        return x;
+    }
+
+    private static void promise3And4() {
+        Maker maker = PromisesTest::withFields;
         int[][] badFields = {{-1, 0}, {4, 0}, {300, 0}, {Integer.MIN_VALUE, 0}, {Integer.MAX_VALUE, 0}, {0, -1},
             {0, 2}, {2, 1}, {3, 0}, {0, Integer.MIN_VALUE}, {0, Integer.MAX_VALUE}};
         for (int[] b : badFields) {
-            refused("4: get(" + b[0] + ", " + b[1] + ")", MISSING, x, () -> x.get(b[0], b[1]));
-            refused("3: set(" + b[0] + ", " + b[1] + ", 0)", MISSING, x, () -> x.set(b[0], b[1], 0));
-            refused("3: set(" + b[0] + ", " + b[1] + ", NONE)", MISSING, x, () -> x.set(b[0], b[1], NONE));
+            String at = b[0] + ", " + b[1];
+            refused("4: get(" + at + ")", MISSING, maker, y -> y.get(b[0], b[1]));
+            refused("3: set(" + at + ", 0)", MISSING, maker, y -> y.set(b[0], b[1], 0));
+            refused("3: set(" + at + ", NONE)", MISSING, maker, y -> y.set(b[0], b[1], NONE));
         }
         for (int other : new int[] {-2, 4, 300, Integer.MIN_VALUE, Integer.MAX_VALUE}) {
-            refused("3: set(0, 1, " + other + ")", MISSING, x, () -> x.set(0, 1, other));
+            refused("3: set(0, 1, " + other + ")", MISSING, maker, y -> y.set(0, 1, other));
         }
-        due("3: sweep()", 2, x.sweep());
-        refused("4: get of what went", MISSING, x, () -> x.get(1, 0));
-        refused("3: set of what went", MISSING, x, () -> x.set(1, 0, 0));
-        refused("3: set to what went", MISSING, x, () -> x.set(0, 0, 3));
+        Maker swept = PromisesTest::withFieldsSwept;
+        refused("4: get of what went", MISSING, swept, y -> y.get(1, 0));
+        refused("3: set of what went", MISSING, swept, y -> y.set(1, 0, 0));
+        refused("3: set to what went", MISSING, swept, y -> y.set(0, 0, 3));
     }
 
-    private static void promise5() {
+    private static WillKeeper withRoots() {
         WillKeeper x = new WillKeeper();
         x.make(PLAIN, 0);
         x.make(FINAL, 0);
@@ -167,16 +205,26 @@ public final class PromisesTest {
         due("5: root(15, NONE)", 1, x.root(15, NONE));
         due("5: root(15, NONE)", NONE, x.root(15, NONE));
         due("5: root(14, 2)", NONE, x.root(14, 2));
+        return x;
+    }
+
+    private static WillKeeper withRootsSwept() {
+        WillKeeper x = withRoots();
+        due("5: sweep()", 1, x.sweep());
+        return x;
+    }
+
+    private static void promise5() {
+        Maker maker = PromisesTest::withRoots;
         for (int root : new int[] {-1, 16, 300, Integer.MIN_VALUE, Integer.MAX_VALUE}) {
-            refused("5: root(" + root + ", 0)", MISSING, x, () -> x.root(root, 0));
-            refused("5: root(" + root + ", NONE)", MISSING, x, () -> x.root(root, NONE));
+            refused("5: root(" + root + ", 0)", MISSING, maker, y -> y.root(root, 0));
+            refused("5: root(" + root + ", NONE)", MISSING, maker, y -> y.root(root, NONE));
         }
         for (int k : new int[] {-2, 3, 300, Integer.MIN_VALUE, Integer.MAX_VALUE}) {
-            refused("5: root(0, " + k + ")", MISSING, x, () -> x.root(0, k));
+            refused("5: root(0, " + k + ")", MISSING, maker, y -> y.root(0, k));
         }
-        due("5: sweep()", 1, x.sweep());
-        refused("5: root to what went", MISSING, x, () -> x.root(0, 0));
-        due("5: root(0, NONE)", 2, x.root(0, NONE));
+        refused("5: root to what went", MISSING, PromisesTest::withRootsSwept, y -> y.root(0, 0));
+        due("5: root(0, NONE)", 2, withRootsSwept().root(0, NONE));
     }
 
     private static void promise6() {
@@ -263,13 +311,18 @@ public final class PromisesTest {
         due("7: sweep()", 4, x.sweep());
     }
 
-    private static void promise8() {
+    private static WillKeeper withQueue() {
         WillKeeper x = new WillKeeper();
         x.make(FINAL, 0);
         x.make(PLAIN, 0);
         x.make(FINAL, 0);
         due("8: before a clearing", NONE, x.queued(0));
         x.clear();
+        return x;
+    }
+
+    private static void promise8() {
+        WillKeeper x = withQueue();
         due("8: queued(0)", 0, x.queued(0));
         due("8: queued(1)", 2, x.queued(1));
         due("8: queued(2)", NONE, x.queued(2));
@@ -279,11 +332,12 @@ public final class PromisesTest {
         due("8: queued(0) after take", 2, x.queued(0));
         due("8: queued(1) after take", NONE, x.queued(1));
         due("8: queued(largest) after take", NONE, x.queued(Integer.MAX_VALUE));
-        refused("8: queued(-1)", ARGUMENT, x, () -> x.queued(-1));
-        refused("8: queued(smallest)", ARGUMENT, x, () -> x.queued(Integer.MIN_VALUE));
+        refused("8: queued(-1)", ARGUMENT, PromisesTest::withQueue, y -> y.queued(-1));
+        refused("8: queued(smallest)", ARGUMENT, PromisesTest::withQueue, y -> y.queued(Integer.MIN_VALUE));
+        refused("8: queued(-1) of nothing", ARGUMENT, WillKeeper::new, y -> y.queued(-1));
     }
 
-    private static void promise9() {
+    private static WillKeeper withRing() {
         WillKeeper x = new WillKeeper();
         x.make(WEAK, 2);
         x.make(PLAIN, 1);
@@ -299,8 +353,11 @@ public final class PromisesTest {
         x.set(6, 0, 5);
         x.root(0, 0);
         due("9: a ring that nothing keeps goes", 2, x.sweep());
-        refused("9: about(5, 0)", MISSING, x, () -> x.about(5, 0));
-        refused("9: about(6, 0)", MISSING, x, () -> x.about(6, 0));
+        return x;
+    }
+
+    private static void promise9() {
+        WillKeeper x = withRing();
         due("9: weak fields keep", 2, x.get(1, 0));
         due("9: FINAL ones keep", 4, x.get(3, 0));
         due("9: sweep() again", 0, x.sweep());
@@ -313,9 +370,11 @@ public final class PromisesTest {
         due("9: a root keeps", 12, x.about(4, 1));
         due("9: objects", 2, x.count(0));
         due("9: made", 7, x.count(8));
+        refused("9: about(5, 0)", MISSING, PromisesTest::withRing, y -> y.about(5, 0));
+        refused("9: about(6, 0)", MISSING, PromisesTest::withRing, y -> y.about(6, 0));
     }
 
-    private static void promise10() {
+    private static WillKeeper withIdentities() {
         WillKeeper x = new WillKeeper();
         for (int k = 0; k < 4; k++) {
             x.make(PLAIN, 0);
@@ -327,18 +386,24 @@ public final class PromisesTest {
         x.root(1, 3);
         x.clear();
         x.sweep();
+        return x;
+    }
+
+    private static void promise10() {
+        Maker maker = PromisesTest::withIdentities;
+        refused("10: of what went", MISSING, maker, y -> y.identity(0));
+        refused("10: of what never had one", MISSING, maker, y -> y.identity(1));
+        for (int k : new int[] {-1, 4, 300, Integer.MIN_VALUE, Integer.MAX_VALUE}) {
+            refused("10: identity(" + k + ")", MISSING, maker, y -> y.identity(k));
+        }
+        WillKeeper x = withIdentities();
         due("10: stays", 0, x.identity(2));
         due("10: given", 2, x.count(7));
-        refused("10: of what went", MISSING, x, () -> x.identity(0));
-        refused("10: of what never had one", MISSING, x, () -> x.identity(1));
-        for (int k : new int[] {-1, 4, 300, Integer.MIN_VALUE, Integer.MAX_VALUE}) {
-            refused("10: identity(" + k + ")", MISSING, x, () -> x.identity(k));
-        }
         due("10: numbers are not given again", 2, x.identity(3));
         due("10: given", 3, x.count(7));
     }
 
-    private static void promise11() {
+    private static WillKeeper withOneInRoot() {
         WillKeeper x = new WillKeeper();
         x.make(WEAK, 3);
         x.make(PLAIN, 0);
@@ -348,27 +413,39 @@ public final class PromisesTest {
         x.root(7, 0);
         x.set(0, 0, 1);
         x.set(0, 2, 4);
+        return x;
+    }
+
+    private static WillKeeper withOneInRootSwept() {
+        WillKeeper x = withOneInRoot();
+        due("11: sweep()", 1, x.sweep());
+        return x;
+    }
+
+    private static void promise11() {
+        WillKeeper x = withOneInRoot();
         int[][] due = {{WEAK, 3, 1, 1}, {PLAIN, 0, 0, 1}, {FINAL, 12, 0, 1}, {PLAIN, 1, 0, 0}, {PLAIN, 0, 1, 1}};
         for (int k = 0; k < due.length; k++) {
             for (int what = 0; what < 4; what++) {
                 due("11: about(" + k + ", " + what + ")", due[k][what], x.about(k, what));
             }
         }
-        for (int what : new int[] {-1, 4, Integer.MIN_VALUE, Integer.MAX_VALUE}) {
-            refused("11: about(0, " + what + ")", ARGUMENT, x, () -> x.about(0, what));
-            refused("11: about(5, " + what + ")", MISSING, x, () -> x.about(5, what));
-        }
-        for (int k : new int[] {-1, 5, 300, Integer.MIN_VALUE, Integer.MAX_VALUE}) {
-            refused("11: about(" + k + ", 0)", MISSING, x, () -> x.about(k, 0));
-        }
-        x.sweep();
-        refused("11: of what went", MISSING, x, () -> x.about(3, 1));
         x.clear();
         due("11: in the queue: reached", 1, x.about(2, 2));
         due("11: in the queue: kept", 1, x.about(2, 3));
         x.take();
         due("11: taken: not reached", 0, x.about(2, 2));
         due("11: taken: not kept", 0, x.about(2, 3));
+        Maker maker = PromisesTest::withOneInRoot;
+        for (int what : new int[] {-1, 4, Integer.MIN_VALUE, Integer.MAX_VALUE}) {
+            refused("11: about(0, " + what + ")", ARGUMENT, maker, y -> y.about(0, what));
+            refused("11: about(5, " + what + ")", MISSING, maker, y -> y.about(5, what));
+        }
+        for (int k : new int[] {-1, 5, 300, Integer.MIN_VALUE, Integer.MAX_VALUE}) {
+            refused("11: about(" + k + ", 0)", MISSING, maker, y -> y.about(k, 0));
+        }
+        refused("11: of what went", MISSING, PromisesTest::withOneInRootSwept, y -> y.about(3, 1));
+        refused("11: nothing of what went", MISSING, PromisesTest::withOneInRootSwept, y -> y.about(3, 4));
     }
 
     private static void counts(String when, WillKeeper x, int... due) {
@@ -377,7 +454,7 @@ public final class PromisesTest {
         }
     }
 
-    private static void promise12() {
+    private static WillKeeper withAllToCount() {
         WillKeeper x = new WillKeeper();
         x.make(WEAK, 1);
         x.make(PLAIN, 1);
@@ -389,6 +466,11 @@ public final class PromisesTest {
         x.root(2, 3);
         x.set(0, 0, 1);
         x.identity(4);
+        return x;
+    }
+
+    private static void promise12() {
+        WillKeeper x = withAllToCount();
         counts("made", x, 5, 2, 4, 0, 2, 0, 0, 1, 5);
         x.clear();
         counts("cleared", x, 5, 3, 3, 1, 1, 1, 1, 1, 5);
@@ -402,33 +484,41 @@ public final class PromisesTest {
         x.root(2, NONE);
         counts("a FINAL in no root", x, 3, 1, 2, 0, 1, 1, 2, 1, 5);
         for (int what : new int[] {-1, 9, Integer.MIN_VALUE, Integer.MAX_VALUE}) {
-            refused("12: count(" + what + ")", ARGUMENT, x, () -> x.count(what));
+            refused("12: count(" + what + ")", ARGUMENT, PromisesTest::withAllToCount, y -> y.count(what));
         }
     }
 
-    /** The most that the document allows: a chain, then a queue, of all 300. */
-    private static void largest() {
+    private static void longChain() {
+        WillKeeper x = new WillKeeper();
+        for (int k = 0; k < 250; k++) {
+            x.make(FINAL, 1);
+        }
+        x.root(15, 249);
+        for (int k = 1; k < 250; k++) {
+            x.set(k, 0, k - 1);
+        }
+        due("a long chain is reached", 250, x.count(1));
+        due("nothing comes", 0, x.clear());
+        x.root(15, NONE);
+        due("a long chain is not reached", 0, x.count(1));
+        due("all come", 250, x.clear());
+        due("last in the queue", 249, x.queued(249));
+    }
+
+    private static void longQueue() {
         WillKeeper x = new WillKeeper();
         for (int k = 0; k < 300; k++) {
             x.make(FINAL, 1);
         }
-        x.root(15, 299);
-        for (int k = 1; k < 300; k++) {
-            x.set(k, 0, k - 1);
-        }
-        due("a long chain is reached", 300, x.count(1));
-        due("nothing comes", 0, x.clear());
-        x.root(15, NONE);
         due("all come", 300, x.clear());
         due("last in the queue", 299, x.queued(299));
         due("behind the last", NONE, x.queued(300));
-        for (int k = 0; k < 300; k++) {
-            due("take all", k, x.take());
+        for (int k = 0; k < 200; k++) {
+            due("take", k, x.take());
         }
-        due("then none", NONE, x.take());
         due("none comes again", 0, x.clear());
-        due("all go", 300, x.sweep());
-        due("none is left", 0, x.count(0));
+        due("those that were taken go", 200, x.sweep());
+        due("the queue stays", 100, x.count(0));
     }
 
     public static void main(String[] args) {
@@ -444,7 +534,8 @@ public final class PromisesTest {
         promise10();
         promise11();
         promise12();
-        largest();
+        longChain();
+        longQueue();
         System.out.println(wrong == 0 ? "all answers are as due" : wrong + " answers are not as due");
         if (wrong != 0) {
             System.exit(1);

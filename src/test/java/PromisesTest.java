@@ -1,87 +1,5 @@
-import java.util.NoSuchElementException;
-
 /** Each promise by hand: ordinary inputs, the edges that the document names, and wrong inputs. */
-public final class PromisesTest {
-    private static final int NONE = WillKeeper.NONE;
-    private static final int PLAIN = WillKeeper.PLAIN;
-    private static final int WEAK = WillKeeper.WEAK;
-    private static final int FINAL = WillKeeper.FINAL;
-    private static final Class<? extends RuntimeException> MISSING = NoSuchElementException.class;
-    private static final Class<? extends RuntimeException> ARGUMENT = IllegalArgumentException.class;
-    private static final Class<? extends RuntimeException> STATE = IllegalStateException.class;
-
-    private static int wrong = 0;
-
-    private interface Call {
-        int answer(WillKeeper x);
-    }
-
-    private static void due(String call, int want, int got) {
-        if (got != want) {
-            wrong++;
-            System.out.println(call + " answered " + got + ", due is " + want);
-        }
-    }
-
-    /** Makes the same keeper each time: a keeper is good for 512 calls, and a picture takes many. */
-    private interface Maker {
-        WillKeeper keeper();
-    }
-
-    private static void refused(String call, Class<? extends RuntimeException> want, Maker maker, Call run) {
-        WillKeeper x = maker.keeper();
-        String got = "nothing";
-        try {
-            run.answer(x);
-        } catch (RuntimeException e) {
-            got = e.getClass().getName();
-        }
-        if (!got.equals(want.getName())) {
-            wrong++;
-            System.out.println(call + " throws " + got + ", due is " + want.getName());
-        }
-        if (!picture(maker.keeper()).equals(picture(x))) {
-            wrong++;
-            System.out.println(call + " was refused and yet changed something");
-        }
-    }
-
-    /** All that a keeper of few objects can tell; the keeper is spent by it. */
-    private static String picture(WillKeeper x) {
-        StringBuilder text = new StringBuilder();
-        for (int what = 0; what <= 8; what++) {
-            text.append(x.count(what)).append(' ');
-        }
-        int shown = Math.min(8, x.count(8));
-        for (int place = 0; place < shown; place++) {
-            text.append('q').append(x.queued(place)).append(' ');
-        }
-        for (int k = 0; k < shown; k++) {
-            text.append(pictureOf(x, k));
-        }
-        for (int root = 0; root < 16; root++) {
-            text.append('r').append(x.root(root, NONE)).append(' ');
-        }
-        return text.toString();
-    }
-
-    private static String pictureOf(WillKeeper x, int k) {
-        StringBuilder text = new StringBuilder("| ");
-        try {
-            for (int what = 0; what <= 3; what++) {
-                text.append(x.about(k, what)).append(' ');
-            }
-            int fields = x.about(k, 1);
-            for (int field = 0; field < fields; field++) {
-                text.append(x.get(k, field)).append(' ');
-            }
-            text.append('i').append(x.identity(k)).append(' ');
-        } catch (NoSuchElementException e) {
-            text.append("gone ");
-        }
-        return text.toString();
-    }
-
+public final class PromisesTest extends Checks {
     private static void promise1() {
         WillKeeper x = new WillKeeper();
         for (int what = 0; what <= 8; what++) {
@@ -136,9 +54,9 @@ public final class PromisesTest {
             due("2: a new field", NONE, x.get(3, field));
             due("2: a new field", NONE, x.get(5, field));
         }
-        int[][] bad = {{-1, 1}, {3, 1}, {Integer.MAX_VALUE, 1}, {Integer.MIN_VALUE, 1}, {PLAIN, -1}, {PLAIN, 13},
-            {FINAL, 13}, {FINAL, -1}, {WEAK, 13}, {WEAK, 0}, {WEAK, -1}, {PLAIN, Integer.MIN_VALUE},
-            {PLAIN, Integer.MAX_VALUE}};
+        int[][] bad = {{-1, 1}, {3, 1}, {LARGEST, 1}, {SMALLEST, 1}, {PLAIN, -1}, {PLAIN, 13},
+            {FINAL, 13}, {FINAL, -1}, {WEAK, 13}, {WEAK, 0}, {WEAK, -1}, {PLAIN, SMALLEST},
+            {PLAIN, LARGEST}};
         for (int[] b : bad) {
             String call = "make(" + b[0] + ", " + b[1] + ")";
             refused("2: " + call, ARGUMENT, PromisesTest::oneOfEach, y -> y.make(b[0], b[1]));
@@ -177,15 +95,15 @@ public final class PromisesTest {
 
     private static void promise3And4() {
         Maker maker = PromisesTest::withFields;
-        int[][] badFields = {{-1, 0}, {4, 0}, {300, 0}, {Integer.MIN_VALUE, 0}, {Integer.MAX_VALUE, 0}, {0, -1},
-            {0, 2}, {2, 1}, {3, 0}, {0, Integer.MIN_VALUE}, {0, Integer.MAX_VALUE}};
+        int[][] badFields = {{-1, 0}, {4, 0}, {300, 0}, {SMALLEST, 0}, {LARGEST, 0}, {0, -1},
+            {0, 2}, {2, 1}, {3, 0}, {0, SMALLEST}, {0, LARGEST}};
         for (int[] b : badFields) {
             String at = b[0] + ", " + b[1];
             refused("4: get(" + at + ")", MISSING, maker, y -> y.get(b[0], b[1]));
             refused("3: set(" + at + ", 0)", MISSING, maker, y -> y.set(b[0], b[1], 0));
             refused("3: set(" + at + ", NONE)", MISSING, maker, y -> y.set(b[0], b[1], NONE));
         }
-        for (int other : new int[] {-2, 4, 300, Integer.MIN_VALUE, Integer.MAX_VALUE}) {
+        for (int other : new int[] {-2, 4, 300, SMALLEST, LARGEST}) {
             refused("3: set(0, 1, " + other + ")", MISSING, maker, y -> y.set(0, 1, other));
         }
         Maker swept = PromisesTest::withFieldsSwept;
@@ -216,11 +134,11 @@ public final class PromisesTest {
 
     private static void promise5() {
         Maker maker = PromisesTest::withRoots;
-        for (int root : new int[] {-1, 16, 300, Integer.MIN_VALUE, Integer.MAX_VALUE}) {
+        for (int root : new int[] {-1, 16, 300, SMALLEST, LARGEST}) {
             refused("5: root(" + root + ", 0)", MISSING, maker, y -> y.root(root, 0));
             refused("5: root(" + root + ", NONE)", MISSING, maker, y -> y.root(root, NONE));
         }
-        for (int k : new int[] {-2, 3, 300, Integer.MIN_VALUE, Integer.MAX_VALUE}) {
+        for (int k : new int[] {-2, 3, 300, SMALLEST, LARGEST}) {
             refused("5: root(0, " + k + ")", MISSING, maker, y -> y.root(0, k));
         }
         refused("5: root to what went", MISSING, PromisesTest::withRootsSwept, y -> y.root(0, 0));
@@ -327,13 +245,13 @@ public final class PromisesTest {
         due("8: queued(1)", 2, x.queued(1));
         due("8: queued(2)", NONE, x.queued(2));
         due("8: queued(300)", NONE, x.queued(300));
-        due("8: queued(largest)", NONE, x.queued(Integer.MAX_VALUE));
+        due("8: queued(largest)", NONE, x.queued(LARGEST));
         x.take();
         due("8: queued(0) after take", 2, x.queued(0));
         due("8: queued(1) after take", NONE, x.queued(1));
-        due("8: queued(largest) after take", NONE, x.queued(Integer.MAX_VALUE));
+        due("8: queued(largest) after take", NONE, x.queued(LARGEST));
         refused("8: queued(-1)", ARGUMENT, PromisesTest::withQueue, y -> y.queued(-1));
-        refused("8: queued(smallest)", ARGUMENT, PromisesTest::withQueue, y -> y.queued(Integer.MIN_VALUE));
+        refused("8: queued(smallest)", ARGUMENT, PromisesTest::withQueue, y -> y.queued(SMALLEST));
         refused("8: queued(-1) of nothing", ARGUMENT, WillKeeper::new, y -> y.queued(-1));
     }
 
@@ -393,7 +311,7 @@ public final class PromisesTest {
         Maker maker = PromisesTest::withIdentities;
         refused("10: of what went", MISSING, maker, y -> y.identity(0));
         refused("10: of what never had one", MISSING, maker, y -> y.identity(1));
-        for (int k : new int[] {-1, 4, 300, Integer.MIN_VALUE, Integer.MAX_VALUE}) {
+        for (int k : new int[] {-1, 4, 300, SMALLEST, LARGEST}) {
             refused("10: identity(" + k + ")", MISSING, maker, y -> y.identity(k));
         }
         WillKeeper x = withIdentities();
@@ -437,11 +355,11 @@ public final class PromisesTest {
         due("11: taken: not reached", 0, x.about(2, 2));
         due("11: taken: not kept", 0, x.about(2, 3));
         Maker maker = PromisesTest::withOneInRoot;
-        for (int what : new int[] {-1, 4, Integer.MIN_VALUE, Integer.MAX_VALUE}) {
+        for (int what : new int[] {-1, 4, SMALLEST, LARGEST}) {
             refused("11: about(0, " + what + ")", ARGUMENT, maker, y -> y.about(0, what));
             refused("11: about(5, " + what + ")", MISSING, maker, y -> y.about(5, what));
         }
-        for (int k : new int[] {-1, 5, 300, Integer.MIN_VALUE, Integer.MAX_VALUE}) {
+        for (int k : new int[] {-1, 5, 300, SMALLEST, LARGEST}) {
             refused("11: about(" + k + ", 0)", MISSING, maker, y -> y.about(k, 0));
         }
         refused("11: of what went", MISSING, PromisesTest::withOneInRootSwept, y -> y.about(3, 1));
@@ -483,7 +401,7 @@ public final class PromisesTest {
         counts("taken", x, 3, 2, 2, 0, 1, 1, 2, 1, 5);
         x.root(2, NONE);
         counts("a FINAL in no root", x, 3, 1, 2, 0, 1, 1, 2, 1, 5);
-        for (int what : new int[] {-1, 9, Integer.MIN_VALUE, Integer.MAX_VALUE}) {
+        for (int what : new int[] {-1, 9, SMALLEST, LARGEST}) {
             refused("12: count(" + what + ")", ARGUMENT, PromisesTest::withAllToCount, y -> y.count(what));
         }
     }
@@ -536,9 +454,6 @@ public final class PromisesTest {
         promise12();
         longChain();
         longQueue();
-        System.out.println(wrong == 0 ? "all answers are as due" : wrong + " answers are not as due");
-        if (wrong != 0) {
-            System.exit(1);
-        }
+        end();
     }
 }

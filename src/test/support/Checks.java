@@ -107,6 +107,10 @@ class Checks {
         }
     }
 
+    static boolean allRightSoFar() {
+        return wrong == 0;
+    }
+
     static void end() {
         System.out.println(wrong == 0 ? "all answers are as due" : wrong + " answers are not as due");
         if (wrong != 0) {

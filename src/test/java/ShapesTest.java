@@ -1,6 +1,6 @@
 import java.util.Arrays;
 
-/** Every shape that three objects and one root can have, led through clearings, takes and sweeps. */
+/** Every shape of three objects with 2, 2 and 1 fields and one root, led through clearings, takes and sweeps. */
 public final class ShapesTest extends Checks {
     private static final int OBJECTS = 3;
     private static final int[] FIELDS = {2, 2, 1};
